@@ -381,7 +381,7 @@ public final class SuccessKinds {
             return ((set >> kind) & 1) != 0;
         }
 
-        /** What an expression gives. It goes no deeper than an expression may be. */
+        /** What an expression gives. It calls itself no deeper than make lets an expression be. */
         private int kinds(int expression, long sets) {
             int detail = program.details[expression];
             switch (program.sorts[expression]) {
@@ -579,7 +579,10 @@ public final class SuccessKinds {
             variables[start + 3] = NOTHING_GIVEN;
         }
 
-        /** Works out an expression of the innermost open call; both depths have their limits. */
+        /**
+         * Works out an expression of the innermost open call. It calls itself no deeper than make
+         * lets an expression be, for each of the calls that may be open.
+         */
         private long workOut(int expression, int openCalls) {
             if (steps >= MOST_STEPS) {
                 return CUT_OFF;
@@ -707,7 +710,7 @@ public final class SuccessKinds {
             }
             int one = detailOf(left);
             int other = detailOf(right);
-            return number(sort == SUM ? one + other : one - other);
+            return number(sort == DIFFERENCE ? one - other : one + other);
         }
 
         private long pair(long head, long tail) {

@@ -42,6 +42,10 @@ public final class HopelessTest {
         due(expect, "two calls", maker, 0, body, bad);
         due(expect, "no calls", maker, 1, body);
         maker.kinds.define(0, bad);
+        expect.is("isHopeless without hopeless before", true, maker.kinds.isHopeless(0, bad));
+        maker.kinds.define(2, x);
+        expect.is("isHopeless at once after define", false, maker.kinds.isHopeless(0, bad));
+        maker.kinds.define(2, headOfNil);
         due(expect, "the body itself", maker, 0, body, bad);
     }
 

@@ -90,6 +90,7 @@ public final class RunTest {
         fails(expect, "variable 2 of none", maker, second, nil);
         fails(expect, "an argument's variable", maker, nil, x);
         gives(expect, "let", maker, maker.let(2, one, second), nil, 6, 1);
+        gives(expect, "let be atom 0", maker, maker.let(2, maker.atom(0), one), nil, 6, 1);
         fails(expect, "let of the other", maker, maker.let(2, one, third), nil);
         fails(expect, "let not within itself", maker, maker.let(2, second, one), nil);
         fails(expect, "not behind a let", maker, maker.pair(maker.let(2, one, second), second), nil);
@@ -111,6 +112,9 @@ public final class RunTest {
         kinds.define(3, maker.pair(y, x));
         expect.is("two parameters", 8, () -> kinds.run(3, nil, one));
         expect.is("the second one first", 1, () -> kinds.part(1));
+        int atom = maker.atom(0);
+        expect.is("atom 0 as both parameters", 8, () -> kinds.run(3, atom, atom));
+        expect.is("two parameters again", 8, () -> kinds.run(3, nil, one));
         expect.is("then the first one", 7, () -> kinds.part(2));
     }
 
@@ -378,6 +382,13 @@ public final class RunTest {
         expect.is("a second run begins anew", 0, () -> kinds.run(0, nine, 0));
         expect.throwing("10 of another form", Expect.STATE, () -> kinds.run(0, eleven, 0));
         expect.is("and again", 0, () -> kinds.run(0, nine, 0));
+        kinds.define(0, maker.pair(x, x));
+        for (int run = 0; run < 50; run++) {
+            int argument = maker.number(run);
+            expect.is("run " + run + " of one pair", 8, () -> kinds.run(0, argument, 0));
+            int due = run;
+            expect.is("its second value", due, () -> kinds.part(2));
+        }
     }
 
     private static void failureLimit(Expect expect) {
