@@ -10,9 +10,6 @@ public final class MakeTest {
         wrongDetails(expect);
         wrongParts(expect);
         notNeededIsNotLookedAt(expect);
-        depthLimit(expect);
-        sizeLimit(expect);
-        atMostNinety(expect);
         expect.finish();
     }
 
@@ -112,81 +109,5 @@ public final class MakeTest {
         made(expect, kinds, 9, 11, 2, 0, 0, 600);
         made(expect, kinds, 10, 12, 0, 0, -1, 600);
         made(expect, kinds, 11, 13, 0, 0, -1, 600);
-    }
-
-    /** Each part by itself may be the one that makes an expression too deep. */
-    private static void depthLimit(Expect expect) {
-        SuccessKinds kinds = new SuccessKinds();
-        made(expect, kinds, 0, 3, 0, 0, 0, 0);
-        for (int deep = 1; deep <= 5; deep++) {
-            made(expect, kinds, deep, 7, deep - 1, 0, 0, 0);
-        }
-        refused(expect, kinds, 7, 5, 0, 0, 0);
-        refused(expect, kinds, 8, 5, 0, 0, 0);
-        for (int sort : new int[] {4, 5, 6, 12, 13}) {
-            refused(expect, kinds, sort, 5, 0, 0, 0);
-            refused(expect, kinds, sort, 0, 5, 0, 0);
-        }
-        refused(expect, kinds, 9, 5, 0, 0, 0);
-        refused(expect, kinds, 9, 0, 0, 5, 0);
-        refused(expect, kinds, 9, 0, 0, 0, 5);
-        refused(expect, kinds, 10, 3, 5, 0, 0);
-        refused(expect, kinds, 10, 3, 0, 5, 0);
-        refused(expect, kinds, 10, 0, 5, 0, 0);
-        refused(expect, kinds, 11, 2, 5, 0, 0);
-        refused(expect, kinds, 11, 2, 0, 5, 0);
-        made(expect, kinds, 6, 10, 0, 4, 5, 0);
-        made(expect, kinds, 7, 9, 4, 5, 4, 4);
-    }
-
-    /** Sizes 60 and 61, with each of a CASE's parts the greater one. */
-    private static void sizeLimit(Expect expect) {
-        SuccessKinds kinds = new SuccessKinds();
-        made(expect, kinds, 0, 3, 0, 0, 0, 0);
-        made(expect, kinds, 1, 6, 0, 0, 0, 0);
-        made(expect, kinds, 2, 6, 1, 1, 0, 0);
-        made(expect, kinds, 3, 6, 2, 2, 0, 0);
-        made(expect, kinds, 4, 6, 3, 3, 0, 0);
-        made(expect, kinds, 5, 6, 3, 2, 0, 0);
-        made(expect, kinds, 6, 6, 2, 1, 0, 0);
-        made(expect, kinds, 7, 6, 6, 3, 0, 0);
-        made(expect, kinds, 8, 7, 7, 0, 0, 0);
-        // 4 has size 31, 7 has 27, 8 has 28 and depth 5.
-        refused(expect, kinds, 6, 4, 4, 0, 0);
-        made(expect, kinds, 9, 6, 4, 7, 0, 0);
-        made(expect, kinds, 10, 9, 4, 0, 7, 0);
-        refused(expect, kinds, 9, 4, 0, 7, 1);
-        refused(expect, kinds, 9, 7, 0, 1, 4);
-        refused(expect, kinds, 9, 1, 0, 4, 7);
-        made(expect, kinds, 11, 9, 0, 0, 4, 7);
-        made(expect, kinds, 12, 11, 2, 4, 7, 0);
-        refused(expect, kinds, 11, 2, 4, 4, 0);
-        refused(expect, kinds, 10, 3, 4, 4, 0);
-        made(expect, kinds, 13, 10, 2, 4, 4, 0);
-        made(expect, kinds, 14, 9, 3, 0, 3, 7);
-        // 15 has size 2: one more than what goes with 4 and 7.
-        made(expect, kinds, 15, 8, 0, 0, 0, 0);
-        refused(expect, kinds, 9, 15, 0, 4, 7);
-        refused(expect, kinds, 9, 4, 0, 15, 7);
-        refused(expect, kinds, 9, 4, 0, 7, 15);
-        made(expect, kinds, 16, 9, 4, 0, 0, 7);
-    }
-
-    private static void atMostNinety(Expect expect) {
-        SuccessKinds kinds = new SuccessKinds();
-        for (int made = 0; made < 90; made++) {
-            made(expect, kinds, made, 2, made, 0, 0, 0);
-        }
-        expect.throwing("the 91st", Expect.STATE, () -> kinds.make(3, 0, 0, 0, 0));
-        expect.throwing("the 91st, of parts", Expect.STATE, () -> kinds.make(6, 89, 89, 0, 0));
-        // A wrong argument is named first, and the place behind the last expression is not one of them.
-        refused(expect, kinds, 15, 0, 0, 0, 0);
-        refused(expect, kinds, 7, 90, 0, 0, 0);
-        expect.throwing("define with the 91st", Expect.ARGUMENT, () -> kinds.define(0, 90));
-        expect.throwing("run with the 91st", Expect.ARGUMENT, () -> kinds.run(0, 90, 0));
-        expect.throwing("isHopeless of the 91st", Expect.ARGUMENT, () -> kinds.isHopeless(0, 90) ? 1 : 0);
-        kinds.define(0, 89);
-        expect.is("run of the 90th", 6, () -> kinds.run(0, 0, 0));
-        expect.is("its number", 89, () -> kinds.part(0));
     }
 }

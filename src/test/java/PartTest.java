@@ -3,8 +3,6 @@ public final class PartTest {
     public static void main(String[] args) {
         Expect expect = new Expect();
         fromTheOutside(expect);
-        latestRunThatThrewNothing(expect);
-        atMostSixty(expect);
         deepFirstValues(expect);
         expect.finish();
     }
@@ -36,60 +34,6 @@ public final class PartTest {
         due(expect, "atom", kinds, 3);
         kinds.run(0, maker.nil(), 0);
         due(expect, "nil", kinds, 7);
-    }
-
-    private static void latestRunThatThrewNothing(Expect expect) {
-        Maker maker = new Maker();
-        SuccessKinds kinds = maker.kinds;
-        int x = maker.variable(0);
-        int nil = maker.nil();
-        int four = maker.number(4);
-        int other = maker.pair(maker.pair(four, four), four);
-        due(expect, "no run yet", kinds);
-        expect.throwing("fails", Expect.UNSUPPORTED, () -> kinds.run(0, nil, 0));
-        due(expect, "no good run yet", kinds);
-        kinds.define(0, x);
-        kinds.define(1, maker.head(maker.head(maker.head(x))));
-        kinds.define(2, maker.pair(maker.call(2, x), x));
-        int argument = maker.pair(nil, maker.pair(nil, four));
-        kinds.run(0, argument, 0);
-        due(expect, "good run", kinds, 8, 7, 8, 7, 4);
-        expect.throwing("fails", Expect.UNSUPPORTED, () -> kinds.run(1, other, 0));
-        due(expect, "a run that fails keeps it", kinds, 8, 7, 8, 7, 4);
-        expect.throwing("is cut off", Expect.STATE, () -> kinds.run(2, other, 0));
-        due(expect, "a run that is cut off keeps it", kinds, 8, 7, 8, 7, 4);
-        expect.throwing("wrong call", Expect.ARGUMENT, () -> kinds.run(2, 90, 0));
-        due(expect, "a wrong call keeps it", kinds, 8, 7, 8, 7, 4);
-        kinds.define(0, nil);
-        due(expect, "another body keeps it", kinds, 8, 7, 8, 7, 4);
-        kinds.run(0, nil, 0);
-        due(expect, "the next good run", kinds, 7);
-    }
-
-    /** Values of 59, 61 and 63 parts. */
-    private static void atMostSixty(Expect expect) {
-        Maker maker = new Maker();
-        SuccessKinds kinds = maker.kinds;
-        int x = maker.variable(0);
-        int leaf = maker.number(9);
-        int three = maker.pair(leaf, leaf);
-        int seven = maker.pair(three, three);
-        int fifteen = maker.pair(seven, seven);
-        int thirtyOne = maker.pair(fifteen, fifteen);
-        int twentySeven = maker.pair(fifteen, maker.pair(seven, three));
-        kinds.define(0, maker.pair(x, x));
-        kinds.run(0, thirtyOne, 0);
-        expect.is("part(59) of 63", 9, () -> kinds.part(59));
-        expect.throwing("part(60) of 63", Expect.INDEX, () -> kinds.part(60));
-        expect.is("part(32) of 63", 8, () -> kinds.part(32));
-        kinds.define(3, maker.pair(x, maker.variable(1)));
-        kinds.run(3, thirtyOne, twentySeven);
-        expect.is("part(58) of 59", 9, () -> kinds.part(58));
-        expect.throwing("part(59) of 59", Expect.INDEX, () -> kinds.part(59));
-        int twentyNine = maker.pair(maker.pair(seven, seven), maker.pair(seven, maker.pair(three, leaf)));
-        kinds.run(3, thirtyOne, twentyNine);
-        expect.is("part(59) of 61", 9, () -> kinds.part(59));
-        expect.throwing("part(60) of 61", Expect.INDEX, () -> kinds.part(60));
     }
 
     private static void deepFirstValues(Expect expect) {

@@ -10,10 +10,6 @@ public final class RunTest {
         failing(expect);
         order(expect);
         arguments(expect);
-        openCalls(expect);
-        steps(expect);
-        pairLimit(expect);
-        failureLimit(expect);
         callsCounted(expect);
         wrongArguments(expect);
         expect.finish();
@@ -29,11 +25,6 @@ public final class RunTest {
     private static void fails(Expect expect, String what, Maker maker, int body, int x) {
         maker.kinds.define(0, body);
         expect.throwing(what, Expect.UNSUPPORTED, () -> maker.kinds.run(0, x, -1));
-    }
-
-    private static void cutOff(Expect expect, String what, Maker maker, int body, int x) {
-        maker.kinds.define(0, body);
-        expect.throwing(what, Expect.STATE, () -> maker.kinds.run(0, x, -1));
     }
 
     private static void everyKind(Expect expect) {
@@ -276,155 +267,6 @@ public final class RunTest {
         kinds.define(0, nil);
         expect.is("y is left", 7, () -> kinds.run(0, nil, fail));
         expect.throwing("an unused argument fails", Expect.UNSUPPORTED, () -> kinds.run(0, fail, nil));
-    }
-
-    /** Function 0 counts down to 0, so that an argument n opens n + 1 calls. */
-    private static void openCalls(Expect expect) {
-        Maker maker = new Maker();
-        SuccessKinds kinds = maker.kinds;
-        int x = maker.variable(0);
-        int nil = maker.nil();
-        int deeper = maker.call(0, maker.difference(x, maker.number(1)));
-        int down = maker.caseOf(x, Maker.ZERO, nil, deeper);
-        for (int n = 0; n < 5; n++) {
-            gives(expect, n + " down", maker, down, maker.number(n), 7, 7);
-            int due = n + 1;
-            expect.is("calls()", due, () -> kinds.calls());
-        }
-        cutOff(expect, "5 down", maker, down, maker.number(5));
-        expect.is("calls() of 5 down", 5, () -> kinds.calls());
-        int caught = maker.caseOf(x, Maker.ZERO, nil, maker.attempt(deeper, nil));
-        cutOff(expect, "no try catches it", maker, caught, maker.number(5));
-        kinds.define(0, down);
-        kinds.define(1, x);
-        int four = maker.number(4);
-        int argument = maker.call(0, four);
-        expect.is("arguments are inside of none", 7, () -> kinds.run(1, argument, 0));
-        expect.is("six calls side by side", 6, () -> kinds.calls());
-        int five = maker.call(0, maker.number(5));
-        expect.throwing("too deep in an argument", Expect.STATE, () -> kinds.run(1, five, 0));
-        kinds.define(1, maker.call(0, four));
-        expect.throwing("one call more around", Expect.STATE, () -> kinds.run(1, nil, 0));
-        int noBody = maker.caseOf(x, Maker.ZERO, maker.call(2, x), deeper);
-        fails(expect, "without a body as the fifth", maker, noBody, maker.number(3));
-        expect.is("it was made", 5, () -> kinds.calls());
-        cutOff(expect, "without a body as the sixth", maker, noBody, maker.number(4));
-        int failingArgument = maker.caseOf(x, Maker.ZERO, maker.call(0, maker.fail()), deeper);
-        fails(expect, "its argument fails before", maker, failingArgument, maker.number(4));
-    }
-
-    /** Function 0 works out 195 expressions, to which the argument's are added. */
-    private static void steps(Expect expect) {
-        Maker maker = new Maker();
-        SuccessKinds kinds = maker.kinds;
-        int nil = maker.nil();
-        int two = maker.same(nil, nil);
-        int three = maker.same(two, two);
-        int four = maker.same(three, three);
-        int five = maker.same(four, four);
-        kinds.define(1, five);
-        int call = maker.call(1, four);
-        int body = maker.same(call, call);
-        kinds.define(2, body);
-        // Of the body 1 + 2 * (1 + 15 + 31) = 95 are worked out.
-        int nested = maker.call(2, nil);
-        kinds.define(0, maker.same(nested, nested));
-        // 1 + 2 * (1 + 1 + 95) = 195, and the argument.
-        int ofThree = maker.same(nil, nil);
-        expect.is("196 expressions", 1, () -> kinds.run(0, nil, 0));
-        expect.is("198 expressions", 1, () -> kinds.run(0, ofThree, 0));
-        int ofFive = maker.caseOf(nil, 511, ofThree, nil);
-        expect.is("200 expressions", 1, () -> kinds.run(0, ofFive, 0));
-        int more = maker.caseOf(nil, 511, maker.caseOf(nil, 511, nil, nil), nil);
-        expect.is("200 expressions of cases", 1, () -> kinds.run(0, more, 0));
-        int most = maker.caseOf(nil, 0, nil, maker.let(2, nil, nil));
-        expect.is("200 expressions with a let", 1, () -> kinds.run(0, most, 0));
-        int tooMany = maker.attempt(ofFive, nil);
-        expect.throwing("201 expressions", Expect.STATE, () -> kinds.run(0, tooMany, 0));
-        expect.is("calls() of it", 7, () -> kinds.calls());
-        int failing = maker.attempt(maker.attempt(maker.fail(), maker.fail()), nil);
-        expect.is("200 expressions with failures", 1, () -> kinds.run(0, failing, 0));
-        int caught = maker.attempt(maker.head(maker.head(nil)), maker.head(nil));
-        kinds.define(0, maker.attempt(maker.same(nested, nested), nil));
-        expect.throwing("201 in a try", Expect.STATE, () -> kinds.run(0, ofFive, 0));
-        expect.throwing("failed before", Expect.UNSUPPORTED, () -> kinds.run(0, caught, 0));
-        kinds.define(0, maker.same(nested, maker.head(nested)));
-        expect.throwing("the 199th fails", Expect.UNSUPPORTED, () -> kinds.run(0, ofThree, 0));
-    }
-
-    /** An argument of 31 pairs at most; bodies make the others. */
-    private static void pairLimit(Expect expect) {
-        Maker maker = new Maker();
-        SuccessKinds kinds = maker.kinds;
-        int nil = maker.nil();
-        int x = maker.variable(0);
-        int one = maker.pair(nil, nil);
-        int three = maker.pair(one, one);
-        int seven = maker.pair(three, three);
-        int fifteen = maker.pair(seven, seven);
-        int ten = maker.pair(seven, maker.pair(one, nil));
-        kinds.define(1, fifteen);
-        kinds.define(2, ten);
-        int twice = maker.pair(maker.call(1, nil), maker.call(1, nil));
-        kinds.define(0, twice);
-        expect.is("31 pairs", 8, () -> kinds.run(0, nil, 0));
-        expect.is("31 and 7", 8, () -> kinds.run(0, seven, 0));
-        int nine = maker.pair(one, seven);
-        expect.is("31 and 9", 8, () -> kinds.run(0, nine, 0));
-        expect.throwing("31 and 10", Expect.STATE, () -> kinds.run(0, ten, 0));
-        kinds.define(0, maker.attempt(twice, nil));
-        expect.is("40 in a try", 8, () -> kinds.run(0, nine, 0));
-        expect.throwing("41 in a try", Expect.STATE, () -> kinds.run(0, ten, 0));
-        kinds.define(0, maker.attempt(maker.pair(maker.call(1, nil), maker.call(1, maker.fail())), x));
-        expect.is("a pair whose part fails is not made", 8, () -> kinds.run(0, fifteen, 0));
-        int eleven = maker.pair(nine, nil);
-        kinds.define(0, maker.same(twice, x));
-        expect.is("a second run begins anew", 0, () -> kinds.run(0, nine, 0));
-        expect.throwing("10 of another form", Expect.STATE, () -> kinds.run(0, eleven, 0));
-        expect.is("and again", 0, () -> kinds.run(0, nine, 0));
-        kinds.define(0, maker.pair(x, x));
-        for (int run = 0; run < 50; run++) {
-            int argument = maker.number(run);
-            expect.is("run " + run + " of one pair", 8, () -> kinds.run(0, argument, 0));
-            int due = run;
-            expect.is("its second value", due, () -> kinds.part(2));
-        }
-    }
-
-    private static void failureLimit(Expect expect) {
-        Maker maker = new Maker();
-        SuccessKinds kinds = maker.kinds;
-        int nil = maker.nil();
-        int x = maker.variable(0);
-        int fail = maker.fail();
-        int caught = maker.attempt(fail, nil);
-        int two = maker.same(caught, caught);
-        int four = maker.same(two, two);
-        int six = maker.same(four, two);
-        gives(expect, "six failures", maker, six, nil, 1, 1);
-        cutOff(expect, "seven failures", maker, six, caught);
-        cutOff(expect, "seven failures, the last one not caught", maker, maker.same(six, fail), nil);
-        int five = maker.same(four, caught);
-        fails(expect, "six failures, the last one not caught", maker, maker.same(five, fail), nil);
-        kinds.define(1, maker.same(six, fail));
-        cutOff(expect, "the seventh in a try", maker, maker.attempt(maker.call(1, nil), nil), nil);
-        int through = maker.attempt(maker.head(maker.tail(maker.head(fail))), nil);
-        gives(expect, "a failure that goes up is one", maker, maker.same(five, through), nil, 0, 0);
-        gives(expect, "a second run begins anew", maker, six, nil, 1, 1);
-        sixOfEachCause(expect, "head", maker, six, maker.head(nil));
-        sixOfEachCause(expect, "sum", maker, six, maker.sum(nil, nil));
-        sixOfEachCause(expect, "variable", maker, six, maker.variable(2));
-        sixOfEachCause(expect, "no body", maker, six, maker.call(5, nil, nil));
-        kinds.define(1, fail);
-        sixOfEachCause(expect, "call", maker, six, maker.call(1, x));
-    }
-
-    private static void sixOfEachCause(Expect expect, String what, Maker maker, int six, int cause) {
-        int caught = maker.attempt(cause, maker.number(3));
-        int two = maker.pair(caught, caught);
-        int four = maker.pair(two, two);
-        gives(expect, "six times " + what, maker, maker.pair(four, two), maker.number(1), 8, 8);
-        cutOff(expect, "seven times " + what, maker, maker.pair(six, caught), maker.number(1));
     }
 
     private static void callsCounted(Expect expect) {
