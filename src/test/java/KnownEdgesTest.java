@@ -24,6 +24,7 @@ public final class KnownEdgesTest {
         letOfNothing(expect);
         tryOfNothing(expect);
         leastSets(expect);
+        longestWayRound(expect);
         expect.finish();
     }
 
@@ -366,5 +367,41 @@ public final class KnownEdgesTest {
         maker.kinds.define(1, maker.call(3, x, x));
         nothing(expect, "itself through another", maker, maker.call(1, x));
         expect.is("and the other", 0, () -> maker.kinds.gives(1));
+    }
+
+    /**
+     * Each function hands what it gets to the next one, the last one a value of the next kind to the
+     * first one; only with nil or a pair there is an end. So all sets grow by one kind a way round.
+     */
+    private static void longestWayRound(Expect expect) {
+        Maker maker = new Maker();
+        SuccessKinds kinds = maker.kinds;
+        int x = maker.variable(0);
+        int nil = maker.nil();
+        for (int function = 0; function < 5; function++) {
+            kinds.define(function, maker.call(function + 1, x, nil));
+        }
+        int[] next = new int[8];
+        for (int kind = 0; kind < 7; kind++) {
+            next[kind] = maker.call(0, maker.ofKind(kind + 1));
+        }
+        next[7] = nil;
+        for (int step = 1; step < 8; step *= 2) {
+            for (int kind = 0; kind < 8; kind += 2 * step) {
+                next[kind] = maker.caseOf(x, (1 << kind + step) - 1, next[kind], next[kind + step]);
+            }
+        }
+        kinds.define(5, next[0]);
+        for (int function = 0; function <= 5; function++) {
+            int f = function;
+            expect.is("a long way round: may(" + f + ", 0)", 511, () -> kinds.may(f, 0));
+            expect.is("a long way round: gives(" + f + ")", 128, () -> kinds.gives(f));
+        }
+        kinds.define(5, maker.caseOf(x, 384, maker.fail(), next[0]));
+        for (int function = 0; function <= 5; function++) {
+            int f = function;
+            expect.is("without an end: may(" + f + ", 0)", 0, () -> kinds.may(f, 0));
+            expect.is("without an end: gives(" + f + ")", 0, () -> kinds.gives(f));
+        }
     }
 }
