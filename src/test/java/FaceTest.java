@@ -1,4 +1,5 @@
 import java.lang.reflect.Constructor;
+import java.lang.reflect.Executable;
 import java.lang.reflect.Field;
 import java.lang.reflect.Member;
 import java.lang.reflect.Method;
@@ -9,27 +10,28 @@ import java.util.TreeSet;
 /** The document's face, and nothing else that is seen from outside. */
 public final class FaceTest {
     private static final Set<String> FACE = Set.of(
-            "SuccessKinds()",
-            "int make(int, int, int, int, int)",
-            "int define(int, int)",
-            "int may(int, int)",
-            "int gives(int)",
-            "int hopeless(int)",
-            "boolean isHopeless(int, int)",
-            "int run(int, int, int)",
-            "int part(int)",
-            "int calls()");
+            "public SuccessKinds() throws ()",
+            "public int make(int, int, int, int, int) throws (IllegalArgumentException, IllegalStateException)",
+            "public int define(int, int) throws (IllegalArgumentException)",
+            "public int may(int, int) throws (IllegalArgumentException)",
+            "public int gives(int) throws (IllegalArgumentException)",
+            "public int hopeless(int) throws (IllegalArgumentException)",
+            "public boolean isHopeless(int, int) throws (IllegalArgumentException)",
+            "public int run(int, int, int)"
+                    + " throws (IllegalArgumentException, UnsupportedOperationException, IllegalStateException)",
+            "public int part(int) throws (IndexOutOfBoundsException)",
+            "public int calls() throws ()");
 
     public static void main(String[] args) {
         Expect expect = new Expect();
         Set<String> seen = new TreeSet<>();
         for (Constructor<?> constructor : SuccessKinds.class.getDeclaredConstructors()) {
             if (isSeen(constructor)) {
-                seen.add("SuccessKinds" + types(constructor.getParameterTypes()));
+                seen.add(told(constructor, "SuccessKinds"));
             }
         }
         for (Method method : SuccessKinds.class.getDeclaredMethods()) {
-            String face = method.getReturnType() + " " + method.getName() + types(method.getParameterTypes());
+            String face = told(method, method.getReturnType() + " " + method.getName());
             if (isSeen(method)) {
                 seen.add(face);
             } else {
@@ -42,8 +44,10 @@ public final class FaceTest {
             }
         }
         expect.compare("the face", new TreeSet<>(FACE).toString(), seen.toString());
-        expect.is("public", true, Modifier.isPublic(SuccessKinds.class.getModifiers()));
-        expect.is("final", true, Modifier.isFinal(SuccessKinds.class.getModifiers()));
+        expect.compare("the class", "public final", Modifier.toString(SuccessKinds.class.getModifiers()));
+        expect.compare("its package", "", SuccessKinds.class.getPackageName());
+        expect.compare("what it extends", "Object", SuccessKinds.class.getSuperclass().getSimpleName());
+        expect.compare("what it implements", "()", types(SuccessKinds.class.getInterfaces()));
         for (Class<?> inside : SuccessKinds.class.getDeclaredClasses()) {
             checkInside(expect, inside);
         }
@@ -63,6 +67,11 @@ public final class FaceTest {
         }
     }
 
+    private static String told(Executable member, String name) {
+        return Modifier.toString(member.getModifiers()) + " " + name + types(member.getParameterTypes())
+                + " throws " + types(member.getExceptionTypes());
+    }
+
     private static boolean isSeen(Member member) {
         return !Modifier.isPrivate(member.getModifiers()) && !member.isSynthetic();
     }
@@ -74,7 +83,7 @@ public final class FaceTest {
     private static String types(Class<?>[] types) {
         StringBuilder text = new StringBuilder("(");
         for (Class<?> type : types) {
-            text.append(text.length() > 1 ? ", " : "").append(type);
+            text.append(text.length() > 1 ? ", " : "").append(type.getSimpleName());
         }
         return text.append(")").toString();
     }
